@@ -18,10 +18,12 @@ public final class FaceTest {
     private static final String UNSUPPORTED = "UnsupportedOperationException";
 
     public static void main(String[] args) {
-        Class<?> face = SnapshotShelves.class;
-        Check.answers("public and final", Modifier.toString(face.getModifiers()), "public final");
+        Check.sentence("Terms", "The constants: `CONFLICT = -1`, `NONE = -1`");
         Check.answers("CONFLICT", SnapshotShelves.CONFLICT, -1);
         Check.answers("NONE", SnapshotShelves.NONE, -1);
+        Check.sentence("The public face", "public final class SnapshotShelves");
+        Class<?> face = SnapshotShelves.class;
+        Check.answers("public and final", Modifier.toString(face.getModifiers()), "public final");
         Check.answers("methods", publicMethods(face), documentMethods());
         Check.answers("constructors", constructors(face), List.of("public()"));
         Check.answers("visible fields", visibleFields(face),

@@ -55,6 +55,7 @@ public final class LongRunsTest {
     }
 
     public static void main(String[] args) throws ReflectiveOperationException {
+        Check.sentence("What it is", "An object is used for at most 512 calls after it has been made");
         Set<String> met = new TreeSet<>();
         for (int seed = 0; seed < RUNS; seed++) {
             new LongRunsTest(seed, met).run(seed);

@@ -20,15 +20,15 @@ public final class RefusedCallsTest {
     private static final int ENDED = 3;
 
     public static void main(String[] args) {
-        beginnings();
-        wrongNumbers();
-        wrongKeys();
-        fullRow();
-        nothingThere();
-        marks();
-        tooManyVersions();
-        noSuchVersions();
-        Check.end();
+        Check.all(
+                RefusedCallsTest::beginnings,
+                RefusedCallsTest::wrongNumbers,
+                RefusedCallsTest::wrongKeys,
+                RefusedCallsTest::fullRow,
+                RefusedCallsTest::nothingThere,
+                RefusedCallsTest::marks,
+                RefusedCallsTest::tooManyVersions,
+                RefusedCallsTest::noSuchVersions);
     }
 
     /** 39 versions of 14 keys, TIME 4, a vacuum at 2, and six live transactions. */
@@ -72,6 +72,7 @@ public final class RefusedCallsTest {
     }
 
     private static void unchanged(String what, Class<? extends RuntimeException> due, Refused call) {
+        Check.sentence("Terms", "A call that throws changes nothing.");
         SnapshotShelves x = fullHouse();
         Check.refuses(what, due, () -> call.on(x));
         Check.answers(what + " changes nothing", state(x), state(fullHouse()));
@@ -112,6 +113,8 @@ public final class RefusedCallsTest {
         unchanged("beginAt the vacuum", UnsupportedOperationException.class, x -> x.beginAt(2));
         unchanged("beginAt before the vacuum", IllegalArgumentException.class, x -> x.beginAt(1));
         unchanged("beginAt after TIME", IllegalArgumentException.class, x -> x.beginAt(x.time() + 1));
+        unchanged("beginAt the least int", IllegalArgumentException.class, x -> x.beginAt(Integer.MIN_VALUE));
+        unchanged("beginAt the greatest int", IllegalArgumentException.class, x -> x.beginAt(Integer.MAX_VALUE));
     }
 
     private static void wrongNumbers() {
